@@ -162,6 +162,20 @@ public final class ChangesEdgesTest {
         due.is("the next READING", x.reading(2, 0), 1);
         due.is("left", x.cut(), 2);
         due.is("READINGS", x.many(4), 1);
+        // What is left keeps its own c: 0 costs 1, 1 costs 0, as a PLAIN one that 1 USES, and one that nobody USES.
+        ValuePlaces z = Due.of("r;p-;p00;p1");
+        z.reading(2, 9);
+        z.reading(0, 1);
+        z.reading(2, 8);
+        z.reading(1, 0);
+        due.is("left", z.cut(), 2);
+        due.is("READINGS", z.many(4), 2);
+        due.is("kinds of 0", z.kinds(0), 1);
+        due.is("kinds of 1", z.kinds(1), 5);
+        due.is("firsts of 1", z.firsts(1), 1);
+        due.is("back", z.back(1), 1);
+        due.is("kinds of 0", z.kinds(0), 1);
+        due.is("kinds of 1", z.kinds(1), 7);
         // Of all 8.
         ValuePlaces y = Due.of("r;p-;p0");
         for (int n = 0; n < 8; n++) {

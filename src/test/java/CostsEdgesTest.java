@@ -13,6 +13,7 @@ public final class CostsEdgesTest {
         inPlaceOfWhatItIsAlone();
         kindsThatAre();
         firstsThatAre();
+        byHowAllIsNow();
         share();
         leastTerms();
         reading();
@@ -132,6 +133,36 @@ public final class CostsEdgesTest {
         due.is("its other one is told", z.firsts(2), 2);
         z.reading(0, 0);
         due.is("its other one can't go", z.firsts(2), 0);
+    }
+
+    private static void byHowAllIsNow() {
+        due.says(0, "in place of what it is alone");
+        // Each change is asked about at once, with nothing in between.
+        ValuePlaces x = Due.of("r;p-;p0;p110");
+        x.reading(0, 1);
+        due.is("firsts of a TEXT", x.firsts(2), 2);
+        x.grow(0, 2, 2, NONE);
+        due.is("firsts, behind grow", x.firsts(3), 6);
+        x.grow(0, 3, 0, NONE);
+        due.is("kinds, behind grow", x.kinds(0), 0);
+        x.cut();
+        due.is("firsts, behind cut", x.firsts(3), 6);
+        x.reuse(3, 0, 1);
+        x.reading(1, 2);
+        due.is("firsts, behind reuse", x.firsts(3), 2);
+        x.reuse(3, 0, 2);
+        due.is("kinds, behind reuse", x.kinds(1), 6);
+        Due.row(x, 0, 0, 3, 0, 0);
+        due.is("a DAY", x.day(0, 0, 0, 1, 1), NONE);
+        due.is("firsts, behind a DAY", x.firsts(3), 2);
+        due.is("a DAY", x.day(0, 0, 0, 1, 1), NONE);
+        due.is("kinds, behind a DAY", x.kinds(1), 6);
+        due.is("no TEXT", Due.read(x, "r;p-;p0;p10;p20;"), -116);
+        due.is("firsts, behind no TEXT", x.firsts(3), 2);
+        due.is("no TEXT", Due.read(x, "r;p-;p0;p10;p20;"), -116);
+        due.is("kinds, behind no TEXT", x.kinds(1), 6);
+        due.is("firsts, behind kinds", x.firsts(3), 2);
+        due.is("kinds, behind firsts", x.kinds(1), 6);
     }
 
     // ---- ODDS

@@ -2,7 +2,8 @@ import java.util.Random;
 
 /** Many runs of calls, told by a fixed seed, on the program and on the model: all answers must be alike. */
 public final class ModelTest {
-    private static final int RUNS = 3000, CALLS = 500;
+    /** A step makes up to some 45 calls, and what an object answers beyond 512 is free. */
+    private static final int RUNS = 3300, CALLS = 460;
     private static final int[] PARAMETERS = {4, 2, 2, 3, 4, 0, 5, 2, 1, 2, 2, 5, 2, 1, 1, 1, 1, 3, 1, 3, 3, 5, 1, 1, 2, 0, 0, 1};
     private static final int[] ODD = {Integer.MIN_VALUE, Integer.MAX_VALUE, -100, 100, 61, 60, 20, 21, -1, -2, -9, 9, 30};
     private final long[] given = new long[PARAMETERS.length];

@@ -320,6 +320,17 @@ public final class PlacesEdgesTest {
             + "is DROPPED (2), HELD behind LINE l, as a set (10 and l;");
         places(CHAIN, 3, 12, 2, 3, 1, 3, 7, 11, 19, 48, 80, 128);
         places(CHAIN, 8, 0, 0, 0, 1, 3, 7, 15, 31, 60, 80, 128);
+        // One behind another, on the same object: each k tells of its own PLACES alone.
+        ValuePlaces all = Due.of(CHAIN);
+        int[][] due3to8 = {{3, 12, 2, 3}, {8, 0, 0, 0}, {4, 8, 1, 1}, {5, 0, 0, 0}, {3, 12, 2, 3}};
+        for (int[] want : due3to8) {
+            due.is("SPILLED with " + want[0], all.hold(want[0], 0), want[1]);
+            due.is("FETCHED with " + want[0], all.hold(want[0], 1), want[2]);
+            due.is("DROPPED with " + want[0], all.hold(want[0], 2), want[3]);
+        }
+        all.cut();
+        all.cut();
+        due.is("SPILLED, when the last two are gone", all.hold(3, 0), 0);
         due.says(12, "NONE: there is no such LINE).");
         ValuePlaces x = Due.of("r;p-;p0");
         due.is("LINE 1", x.hold(3, 11), 2);
@@ -372,13 +383,23 @@ public final class PlacesEdgesTest {
                 due.is("no MOVE", x.copies(k, lane, 60, 0, 10), NONE);
             }
         }
-        // It does not depend on LINES, and what was told ahead of it leaves nothing behind.
+        // What was told ahead of it leaves nothing behind, whether it was done or refused.
         ValuePlaces x = new ValuePlaces();
-        Due.row(x, 0, 0, 1, 0, 1, 2);
-        due.is("the first two", x.copies(0, 0, 0, 2, 0), 3);
-        due.is("none", x.copies(0, 0, 0, 0, 0), 0);
-        due.is("none", x.copies(0, 0, 0, 0, 1), 0);
-        due.is("none", x.copies(0, 0, 0, 0, 10), NONE);
+        Due.row(x, 0, 0, 1, 0, 3, 0, 1, 2);
+        int[] ahead = {2, 3};
+        int[] answers = {3, OUTSIDE};
+        for (int n = 0; n < 2; n++) {
+            due.is("ahead of it", x.copies(0, 0, 0, ahead[n], 0), answers[n]);
+            due.is("none, MOVES", x.copies(0, 0, 0, 0, 0), 0);
+            due.is("ahead of it", x.copies(0, 0, 0, ahead[n], 0), answers[n]);
+            due.is("none, to the spare place", x.copies(0, 0, 0, 0, 1), 0);
+            due.is("ahead of it", x.copies(0, 0, 0, ahead[n], 0), answers[n]);
+            due.is("none, the first MOVE", x.copies(0, 0, 0, 0, 10), NONE);
+            due.is("ahead of it", x.copies(0, 0, 0, ahead[n], 0), answers[n]);
+            due.is("all where they are, MOVES", x.copies(0, 0, 3, 3, 0), 0);
+            due.is("ahead of it", x.copies(0, 0, 0, ahead[n], 0), answers[n]);
+            due.is("all where they are, the first MOVE", x.copies(0, 0, 3, 3, 10), NONE);
+        }
     }
 
     private static void copiesRefused() {

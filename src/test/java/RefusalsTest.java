@@ -346,12 +346,14 @@ public final class RefusalsTest {
             }
             show(all, x.used(l, 0));
             show(all, x.used(l, 1));
-            show(all, x.kinds(l));
-            show(all, x.firsts(l));
             for (int v = 0; v < 8; v++) {
                 show(all, x.next(v, l));
                 show(all, x.cross(v, l));
             }
+        }
+        for (int l = 0; l < 9; l++) {
+            show(all, x.firsts(l));
+            show(all, x.kinds(l));
         }
     }
 
