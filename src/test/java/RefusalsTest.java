@@ -262,26 +262,26 @@ public final class RefusalsTest {
     // ---- what is due
 
     private static void ask(Asked asked) {
-        askAll(asked, 0, asked.arguments.clone(), null, 0);
+        askAll(asked, 0, asked.arguments.clone(), null);
     }
 
     /** From this argument on, each other number of it, and the one with which the call is done. */
-    private static void askAll(Asked asked, int place, int[] arguments, Other first, int changed) {
+    private static void askAll(Asked asked, int place, int[] arguments, Other first) {
         if (place == asked.arguments.length) {
-            askOne(asked, arguments, first, changed);
+            askOne(asked, arguments, first);
             return;
         }
-        askAll(asked, place + 1, arguments, first, changed);
+        askAll(asked, place + 1, arguments, first);
         for (Other other : asked.others) {
             if (other.place == place) {
                 int[] with = arguments.clone();
                 with[place] = other.value;
-                askAll(asked, place + 1, with, first == null || other.order < first.order ? other : first, changed + 1);
+                askAll(asked, place + 1, with, first == null || other.order < first.order ? other : first);
             }
         }
     }
 
-    private static void askOne(Asked asked, int[] arguments, Other first, int changed) {
+    private static void askOne(Asked asked, int[] arguments, Other first) {
         ValuePlaces x = asked.made.get();
         String call = Faces.NAMES[asked.which] + Arrays.toString(arguments);
         int before = x.fault();
@@ -289,7 +289,7 @@ public final class RefusalsTest {
         int fault = !namesFaults(asked.which) ? before : first == null ? 0 : first.fault;
         due.is("fault() behind " + call, x.fault(), fault);
         boolean isDone = first == null && asked.isDone;
-        if (!isDone && changed <= 2) {
+        if (!isDone) {
             for (int view = 0; view < 4; view++) {
                 ValuePlaces y = asked.made.get();
                 Faces.call(y, asked.which, padded(arguments));
