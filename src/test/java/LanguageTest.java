@@ -24,6 +24,7 @@ public final class LanguageTest {
         methodsAreShort(code);
         constants();
         face();
+        order();
         membersInside();
         callsMakeNothing();
         due.end();
@@ -124,6 +125,23 @@ public final class LanguageTest {
         Constructor<?>[] made = c.getDeclaredConstructors();
         due.is("constructors", made.length, 1);
         due.is("it is public", Modifier.isPublic(made[0].getModifiers()) ? 1 : 0, 1);
+    }
+
+    /** The calls stand in the document's order, behind the words that it has ahead of each part. */
+    private static void order() throws Exception {
+        StringBuilder want = new StringBuilder();
+        Matcher parts = Pattern.compile("\nAhead of the calls ([^\n]*) the interface says: (---- \\d [^\n]*)\\.(?=\n)")
+            .matcher(Files.readString(Path.of("../shared/DOC.md")));
+        while (parts.find()) {
+            want.append(parts.group(2)).append(' ').append(parts.group(1).replaceAll("[`,]", "")).append(' ');
+        }
+        StringBuilder has = new StringBuilder();
+        Matcher rows = Pattern.compile("\n    (?:// (---- \\d [^\n]*)|public (?:int|long) (\\w+)\\()")
+            .matcher(Files.readString(SOURCE));
+        while (rows.find()) {
+            has.append(rows.group(1) == null ? rows.group(2) : rows.group(1)).append(' ');
+        }
+        due.is("the document's order " + want + "is the program's " + has, want.toString().contentEquals(has) ? 1 : 0, 1);
     }
 
     private static void membersInside() {

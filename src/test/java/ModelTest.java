@@ -2,8 +2,8 @@ import java.util.Random;
 
 /** Many runs of calls, told by a fixed seed, on the program and on the model: all answers must be alike. */
 public final class ModelTest {
-    /** A step makes up to some 45 calls, and what an object answers beyond 512 is free. */
-    private static final int RUNS = 3300, CALLS = 460;
+    /** What an object answers beyond 512 calls is free; all up to that are held against the model. */
+    private static final int RUNS = 3300, CALLS = 512;
     private static final int[] PARAMETERS = {4, 2, 2, 3, 4, 0, 5, 2, 1, 2, 2, 5, 2, 1, 1, 1, 1, 3, 1, 3, 3, 5, 1, 1, 2, 0, 0, 1};
     private static final int[] ODD = {Integer.MIN_VALUE, Integer.MAX_VALUE, -100, 100, 61, 60, 20, 21, -1, -2, -9, 9, 30};
     private final long[] given = new long[PARAMETERS.length];
@@ -13,6 +13,7 @@ public final class ModelTest {
     private Model model;
     private int wrong;
     private int run;
+    private int calls;
 
     public static void main(String[] args) {
         ModelTest test = new ModelTest();
@@ -27,9 +28,9 @@ public final class ModelTest {
         for (run = 0; run < RUNS && wrong < 20; run++) {
             x = new ValuePlaces();
             model = new Model();
-            int calls = 0;
+            calls = 0;
             while (calls < CALLS && wrong < 20) {
-                calls += step();
+                step();
             }
         }
         for (int which = 0; which < given.length; which++) {
@@ -44,23 +45,26 @@ public final class ModelTest {
         return random.nextInt(n);
     }
 
-    private int step() {
+    private void step() {
         int die = below(100);
         if (die < 6) {
-            return sendText();
+            sendText();
+        } else if (die < 12) {
+            sendDay();
+        } else if (die < 16) {
+            sendCopies();
+        } else {
+            sendAny();
         }
-        if (die < 12) {
-            return sendDay();
-        }
-        if (die < 16) {
-            return sendCopies();
-        }
+    }
+
+    private void sendAny() {
         int which = below(PARAMETERS.length);
         int[] a = new int[PARAMETERS[which]];
         for (int p = 0; p < a.length; p++) {
             a[p] = number(which, p);
         }
-        return compare(which, a);
+        compare(which, a);
     }
 
     private int number(int which, int p) {
@@ -92,15 +96,14 @@ public final class ModelTest {
         return below(below(3) == 0 ? 10 : 4);
     }
 
-    private int fillSheet(int k, int lane, int[] row) {
-        int calls = compare(17, new int[] {k, lane, row.length});
+    private void fillSheet(int k, int lane, int[] row) {
+        compare(17, new int[] {k, lane, row.length});
         for (int i = 0; i < row.length; i++) {
-            calls += compare(19, new int[] {k, i, row[i]});
+            compare(19, new int[] {k, i, row[i]});
         }
-        return calls;
     }
 
-    private int sendText() {
+    private void sendText() {
         StringBuilder text = new StringBuilder("r");
         int lines = 1 + below(8) + (below(30) == 0 ? 1 : 0);
         int[] over = new int[10];
@@ -135,11 +138,11 @@ public final class ModelTest {
         }
         int k = below(4);
         int lane = below(3);
-        int calls = fillSheet(k, lane, Due.codes(text.toString()));
-        return calls + compare(0, new int[] {k, lane, 0, text.length()});
+        fillSheet(k, lane, Due.codes(text.toString()));
+        compare(0, new int[] {k, lane, 0, text.length()});
     }
 
-    private int sendDay() {
+    private void sendDay() {
         int acts = below(4);
         int[] row = new int[3 * acts];
         for (int act = 0; act < acts; act++) {
@@ -149,14 +152,13 @@ public final class ModelTest {
         }
         int k = below(4);
         int lane = below(3);
-        int calls = fillSheet(k, lane, row);
+        fillSheet(k, lane, row);
         for (int what : new int[] {0, 1, 2, 3, 4, 10 + below(8)}) {
-            calls += compare(6, new int[] {k, lane, 0, acts, what});
+            compare(6, new int[] {k, lane, 0, acts, what});
         }
-        return calls;
     }
 
-    private int sendCopies() {
+    private void sendCopies() {
         int n = below(9);
         int[] row = new int[n];
         for (int i = 0; i < n; i++) {
@@ -174,14 +176,17 @@ public final class ModelTest {
             }
         }
         int k = below(4);
-        int calls = fillSheet(k, 2, row);
+        fillSheet(k, 2, row);
         for (int what = 8; what < 23; what++) {
-            calls += compare(11, new int[] {k, 2, 0, n, what < 10 ? what - 8 : what});
+            compare(11, new int[] {k, 2, 0, n, what < 10 ? what - 8 : what});
         }
-        return calls;
     }
 
-    private int compare(int which, int[] a) {
+    private void compare(int which, int[] a) {
+        if (calls == CALLS) {
+            return;
+        }
+        calls++;
         long want = model.call(which, a);
         long got = Faces.call(x, which, a);
         if (want < 0) {
@@ -194,6 +199,5 @@ public final class ModelTest {
             System.out.println("run " + run + ": " + Faces.NAMES[which] + java.util.Arrays.toString(a) + " answered " + got
                 + ", the model " + want);
         }
-        return 1;
     }
 }
